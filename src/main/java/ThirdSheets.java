@@ -323,7 +323,6 @@ public final class ThirdSheets {
 
         void start(int count) {
             members = Math.min(count, parent.length);
-            groups = 0;
             for (int i = 0; i < members; i++) {
                 parent[i] = i;
                 unlikeParent[i] = 0;

@@ -340,6 +340,10 @@ public final class PromiseTests {
         due("not even across two", space(2, 0, 0, 1, 0, 57, 0, 1, 1, 1, 44).count(7), 0);
         due("even across two", space(2, 0, 0, 1, 0, 57, 0, 1, 1, 1, 56).count(7), 1);
         due("not even in one", space(1, 0, 0, 0, 1, 44).count(7), 0);
+        due("not even in one that hangs on others", space(3, 0, 3, 2, 3, 36, 1, 0, 1, 1, 44, 1, 2, 2, 2, 52).count(7), 0);
+        ThirdSheets bent = space(1, 0, 1, 0, 3, 18, 0, 2, 0, 0, 30);
+        for (int k = 0; k < bent.count(1); k++) due("spheres around all corners", bent.link(k), 2);
+        due("not whole, as an edge is bent", bent.count(6), 0);
         for (int what : new int[] {-1, 9, LOW, HIGH}) due("count(" + what + ")", space(1).count(what), LOW);
     }
 
@@ -626,6 +630,9 @@ public final class PromiseTests {
         duePart("a projective plane", plane, 0, 2, 1, 0);
         plane.add(0, 1);
         duePart("a sphere around it", plane, 0, 4, 2, 1);
+        ThirdSheets late = space(2, 0, 2, 1, 3, 18, 0, 1, 1, 1, 35, 0, 0, 1, 2, 52);
+        putAll(late, 1, 0, 0, 1, 0, 1, 0, 0, 1, 2, 1, 0, 0, 0);
+        duePart("one side by cuts that hang on the first late", late, 0, 7, -1, 0);
         ThirdSheets bent = space(1, BENT);
         bent.add(1, 1);
         // Points of 01: THREES 0, 1 and FOURS 1, 2: 1; of 02: 2; of 23: 3. Arcs 5, cuts 3.
