@@ -1,6 +1,6 @@
 import java.util.Random;
 
-/** Runs of drawn calls, the same every time, whose answers NaiveSheets must share. */
+/** All spaces of one piece, and runs of drawn calls, the same every time: NaiveSheets must share the answers. */
 public final class CompareTests {
     private int wrong = 0;
     private final Random draw;
@@ -15,6 +15,7 @@ public final class CompareTests {
     public static void main(String[] args) {
         int runs = args.length > 0 ? Integer.parseInt(args[0]) : 400;
         CompareTests t = new CompareTests(args.length > 1 ? Long.parseLong(args[1]) : 20261116L);
+        for (int[] glued : Spaces.ofOnePiece()) if (t.wrong < 5) t.gluedRun(1, glued);
         for (int run = 0; run < runs && t.wrong < 5; run++) {
             t.wildRun();
             // Three pieces take NaiveSheets long: fewer of them.
@@ -157,6 +158,18 @@ public final class CompareTests {
             int g = draw.nextInt(4);
             glueBoth(draw.nextInt(n), draw.nextInt(4), draw.nextInt(n), g, sensibleMap(g));
         }
+        lookAtAll(n);
+    }
+
+    /** A space that is told, looked at in the same way. */
+    private void gluedRun(int n, int... glued) {
+        start();
+        for (int p = 0; p < n; p++) pieceBoth();
+        for (int i = 0; i < glued.length; i += 5) glueBoth(glued[i], glued[i + 1], glued[i + 2], glued[i + 3], glued[i + 4]);
+        lookAtAll(n);
+    }
+
+    private void lookAtAll(int n) {
         lookAtSpace(n);
         int least = x.least();
         for (int k = 0; k < least; k++) {

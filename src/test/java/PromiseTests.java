@@ -7,25 +7,6 @@ public final class PromiseTests {
     private static final int FULL = ThirdSheets.FULL;
     private static final int NONE = ThirdSheets.NONE;
 
-    // Spaces of which it is known what they are, as rows of p, f, q, g, map.
-    private static final int[] BALL = {};
-    private static final int[] SPHERE = {0, 0, 0, 1, 56, 0, 2, 0, 3, 36};
-    private static final int[] LENS_4_1 = {0, 3, 0, 2, 13, 0, 0, 0, 1, 35};
-    private static final int[] LENS_5_2 = {0, 3, 0, 0, 30, 0, 1, 0, 2, 13};
-    private static final int[] GIESEKING = {0, 0, 0, 1, 11, 0, 2, 0, 3, 6};
-    private static final int[] BENT = {0, 0, 0, 1, 44, 0, 2, 0, 3, 9};
-    private static final int[] TWIN = {0, 0, 1, 0, 57, 0, 1, 1, 1, 56, 0, 2, 1, 2, 52, 0, 3, 1, 3, 36};
-    private static final int[] SPHERE_BY_CIRCLE = {0, 1, 0, 0, 39, 1, 2, 0, 3, 6, 1, 1, 1, 3, 33, 1, 0, 0, 2, 13};
-    private static final int[] TWISTED_SPHERE_BY_CIRCLE = {1, 2, 0, 2, 19, 1, 0, 0, 0, 54, 0, 1, 1, 1, 35, 1, 3, 0, 3, 24};
-    private static final int[] QUATERNIONS = {0, 1, 1, 0, 57, 1, 1, 0, 2, 19, 0, 0, 1, 3, 18, 0, 3, 1, 2, 52};
-    private static final int[] PROJECTIVE = {0, 0, 1, 1, 56, 1, 0, 0, 3, 18, 1, 2, 0, 2, 49, 1, 3, 0, 1, 11};
-    private static final int[] PLANE_BY_CIRCLE = {
-        1, 3, 2, 2, 19, 1, 0, 2, 0, 30, 0, 1, 2, 1, 44, 1, 1, 0, 2, 13, 1, 2, 0, 3, 9, 2, 3, 0, 0, 27};
-    /** One of its least sheets has a number 7, the greatest that there is in any space. */
-    private static final int[] SEVEN = {0, 2, 1, 2, 52, 0, 3, 2, 3, 36, 1, 0, 1, 1, 11, 1, 3, 2, 0, 57, 2, 1, 2, 2, 28};
-    /** No space has more least sheets. */
-    private static final int[] MOST_LEAST = {0, 3, 1, 3, 36, 1, 0, 1, 1, 14, 1, 2, 2, 2, 52};
-
     private static int promise;
     private static int wrong;
 
@@ -198,7 +179,7 @@ public final class PromiseTests {
 
     private static void open() {
         promise = 4;
-        ThirdSheets x = space(2, TWIN);
+        ThirdSheets x = space(2, Spaces.TWIN);
         putAll(x, 1, 0, 0, 0, 0, 0, 0, 1);
         due("open(0, 3)", x.open(0, 3), 1);
         due("open(0, 3)", x.open(0, 3), NOT);
@@ -219,7 +200,7 @@ public final class PromiseTests {
 
     private static void clear() {
         promise = 5;
-        ThirdSheets x = space(3, TWIN);
+        ThirdSheets x = space(3, Spaces.TWIN);
         putAll(x, 1, 1, 1, 1, 0, 0, 0, 1, 1, 1, 1);
         due("parts()", x.parts(), 4);
         due("clear()", x.clear(), 3);
@@ -261,7 +242,7 @@ public final class PromiseTests {
 
     private static void classOf() {
         promise = 7;
-        ThirdSheets x = space(1, LENS_5_2);
+        ThirdSheets x = space(1, Spaces.LENS_5_2);
         int[] edges = {0, 1, 0, 1, 1, 0};
         for (int e = 0; e < 6; e++) due("classOf(1, 0, " + e + ")", x.classOf(1, 0, e), edges[e]);
         for (int c = 0; c < 4; c++) due("classOf(0, 0, " + c + ")", x.classOf(0, 0, c), 0);
@@ -285,7 +266,7 @@ public final class PromiseTests {
 
     private static void bent() {
         promise = 8;
-        ThirdSheets x = space(1, BENT);
+        ThirdSheets x = space(1, Spaces.BENT);
         for (int k = 0; k < 3; k++) due("bent(" + k + ")", x.bent(k), 1);
         due("bent(3)", x.bent(3), BAD);
         // 23 goes to itself with its ends changed, nothing else does.
@@ -308,32 +289,32 @@ public final class PromiseTests {
 
     private static void link() {
         promise = 9;
-        due("a ball's link(3)", space(1, BALL).link(3), 1);
-        due("LENS_4_1 link(0)", space(1, LENS_4_1).link(0), 2);
-        due("GIESEKING link(0)", space(1, GIESEKING).link(0), 0);
-        due("BENT link(0)", space(1, BENT).link(0), 1);
-        for (int k = 0; k < 4; k++) due("TWIN link(" + k + ")", space(2, TWIN).link(k), 2);
+        due("a ball's link(3)", space(1, Spaces.BALL).link(3), 1);
+        due("LENS_4_1 link(0)", space(1, Spaces.LENS_4_1).link(0), 2);
+        due("GIESEKING link(0)", space(1, Spaces.GIESEKING).link(0), 0);
+        due("BENT link(0)", space(1, Spaces.BENT).link(0), 1);
+        for (int k = 0; k < 4; k++) due("TWIN link(" + k + ")", space(2, Spaces.TWIN).link(k), 2);
         ThirdSheets x = space(2, 0, 0, 1, 0, 57, 0, 1, 1, 1, 56);
         for (int k = 0; k < 4; k++) due("two sides of a twin, link(" + k + ")", x.link(k), 1);
         // Three pieces in a ring around their edges 01: the link of a ring's end is a disc.
         ThirdSheets ring = space(3, 0, 2, 1, 3, 36, 1, 2, 2, 3, 36, 2, 2, 0, 3, 36);
         due("ring link(0)", ring.link(0), 1);
-        for (int k : new int[] {-1, 4, 5, LOW, HIGH}) due("link(" + k + ")", space(2, TWIN).link(k), LOW);
+        for (int k : new int[] {-1, 4, 5, LOW, HIGH}) due("link(" + k + ")", space(2, Spaces.TWIN).link(k), LOW);
         due("link(0) of nothing", new ThirdSheets().link(0), LOW);
     }
 
     private static void count() {
         promise = 10;
         dueCounts("BALL", space(1), 1, 4, 6, 4, 4, 1, 0, 1, 1);
-        dueCounts("SPHERE", space(1, SPHERE), 1, 2, 3, 2, 0, 0, 1, 1, 1);
-        dueCounts("LENS_5_2", space(1, LENS_5_2), 1, 1, 2, 2, 0, 0, 1, 1, 1);
-        dueCounts("GIESEKING", space(1, GIESEKING), 1, 1, 1, 2, 0, 1, 0, 0, 1);
-        dueCounts("BENT", space(1, BENT), 1, 1, 3, 2, 0, -1, 0, 0, 1);
-        dueCounts("TWIN", space(2, TWIN), 2, 4, 6, 4, 0, 0, 1, 1, 1);
-        dueCounts("TWISTED", space(2, TWISTED_SPHERE_BY_CIRCLE), 2, 1, 3, 4, 0, 0, 1, 0, 1);
-        dueCounts("PLANE_BY_CIRCLE", space(3, PLANE_BY_CIRCLE), 3, 1, 4, 6, 0, 0, 1, 0, 1);
+        dueCounts("SPHERE", space(1, Spaces.SPHERE), 1, 2, 3, 2, 0, 0, 1, 1, 1);
+        dueCounts("LENS_5_2", space(1, Spaces.LENS_5_2), 1, 1, 2, 2, 0, 0, 1, 1, 1);
+        dueCounts("GIESEKING", space(1, Spaces.GIESEKING), 1, 1, 1, 2, 0, 1, 0, 0, 1);
+        dueCounts("BENT", space(1, Spaces.BENT), 1, 1, 3, 2, 0, -1, 0, 0, 1);
+        dueCounts("TWIN", space(2, Spaces.TWIN), 2, 4, 6, 4, 0, 0, 1, 1, 1);
+        dueCounts("TWISTED", space(2, Spaces.TWISTED_SPHERE_BY_CIRCLE), 2, 1, 3, 4, 0, 0, 1, 0, 1);
+        dueCounts("PLANE_BY_CIRCLE", space(3, Spaces.PLANE_BY_CIRCLE), 3, 1, 4, 6, 0, 0, 1, 0, 1);
         dueCounts("three balls", space(3), 3, 12, 18, 12, 12, 3, 0, 1, 3);
-        dueCounts("a sphere and a ball", space(2, SPHERE), 2, 6, 9, 6, 4, 1, 0, 1, 2);
+        dueCounts("a sphere and a ball", space(2, Spaces.SPHERE), 2, 6, 9, 6, 4, 1, 0, 1, 2);
         ThirdSheets two = space(2, 0, 0, 0, 1, 56, 0, 2, 0, 3, 36, 1, 0, 1, 1, 56, 1, 2, 1, 3, 36);
         dueCounts("two spheres", two, 2, 4, 6, 4, 0, 0, 1, 1, 2);
         // Alike all round, unlike once: two pieces glued twice, once even and once odd.
@@ -350,16 +331,16 @@ public final class PromiseTests {
     private static void holes() {
         promise = 11;
         dueHoles("BALL", space(1), 0);
-        dueHoles("SPHERE", space(1, SPHERE), 0);
-        dueHoles("LENS_4_1", space(1, LENS_4_1), 0, 4);
-        dueHoles("LENS_5_2", space(1, LENS_5_2), 0, 5);
-        dueHoles("GIESEKING", space(1, GIESEKING), 1);
-        dueHoles("SPHERE_BY_CIRCLE", space(2, SPHERE_BY_CIRCLE), 1);
-        dueHoles("TWISTED", space(2, TWISTED_SPHERE_BY_CIRCLE), 1);
-        dueHoles("QUATERNIONS", space(2, QUATERNIONS), 0, 2, 2);
-        dueHoles("PROJECTIVE", space(2, PROJECTIVE), 0, 2);
-        dueHoles("PLANE_BY_CIRCLE", space(3, PLANE_BY_CIRCLE), 1, 2);
-        dueHoles("LENS_5_2 and two balls", space(3, LENS_5_2), 0, 5);
+        dueHoles("SPHERE", space(1, Spaces.SPHERE), 0);
+        dueHoles("LENS_4_1", space(1, Spaces.LENS_4_1), 0, 4);
+        dueHoles("LENS_5_2", space(1, Spaces.LENS_5_2), 0, 5);
+        dueHoles("GIESEKING", space(1, Spaces.GIESEKING), 1);
+        dueHoles("SPHERE_BY_CIRCLE", space(2, Spaces.SPHERE_BY_CIRCLE), 1);
+        dueHoles("TWISTED", space(2, Spaces.TWISTED_SPHERE_BY_CIRCLE), 1);
+        dueHoles("QUATERNIONS", space(2, Spaces.QUATERNIONS), 0, 2, 2);
+        dueHoles("PROJECTIVE", space(2, Spaces.PROJECTIVE), 0, 2);
+        dueHoles("PLANE_BY_CIRCLE", space(3, Spaces.PLANE_BY_CIRCLE), 1, 2);
+        dueHoles("LENS_5_2 and two balls", space(3, Spaces.LENS_5_2), 0, 5);
         int[] fourAndFive = {0, 3, 0, 2, 13, 0, 0, 0, 1, 35, 1, 3, 1, 0, 30, 1, 1, 1, 2, 13};
         dueHoles("LENS_4_1 beside LENS_5_2", space(2, fourAndFive), 0, 20);
         int[] twoFours = {0, 3, 0, 2, 13, 0, 0, 0, 1, 35, 2, 3, 2, 2, 13, 2, 0, 2, 1, 35};
@@ -367,7 +348,7 @@ public final class PromiseTests {
         dueHoles("one pair of a piece", space(1, 0, 0, 0, 1, 56), 0);
         // No edge has a loop here: what is glued is a thick ring.
         dueHoles("a ring without an inside", space(1, 0, 0, 0, 1, 2 + 4 * 3 + 16 * 0), 1);
-        ThirdSheets x = space(1, BENT);
+        ThirdSheets x = space(1, Spaces.BENT);
         due("BENT holes(0)", x.holes(0), NOT);
         due("BENT holes(5)", x.holes(5), NOT);
         due("BENT holes(-1)", x.holes(-1), BAD);
@@ -390,34 +371,34 @@ public final class PromiseTests {
         due("nothing", new ThirdSheets().least(), 0);
         due("BALL", space(1).least(), 7);
         due("three balls", space(3).least(), 21);
-        due("GIESEKING", space(1, GIESEKING).least(), 1);
-        due("TWIN", space(2, TWIN).least(), 7);
-        ThirdSheets x = space(1, LENS_5_2);
+        due("GIESEKING", space(1, Spaces.GIESEKING).least(), 1);
+        due("TWIN", space(2, Spaces.TWIN).least(), 7);
+        ThirdSheets x = space(1, Spaces.LENS_5_2);
         due("LENS_5_2", x.least(), 1);
         x.piece();
         due("LENS_5_2 and a ball", x.least(), 8);
         x.open(0, 3);
         x.open(0, 1);
         due("two balls", x.least(), 14);
-        due("MOST_LEAST", space(3, MOST_LEAST).least(), 35);
+        due("MOST_LEAST", space(3, Spaces.MOST_LEAST).least(), 35);
     }
 
     private static void number() {
         promise = 13;
         dueLeast("BALL", space(1), row(0, 0, 0, 0, 0, 0, 1), row(0, 0, 0, 0, 0, 1, 0), row(0, 0, 0, 0, 1, 0, 0),
             row(0, 0, 0, 1, 0, 0, 0), row(0, 0, 1, 0, 0, 0, 0), row(0, 1, 0, 0, 0, 0, 0), row(1, 0, 0, 0, 0, 0, 0));
-        dueLeast("LENS_4_1", space(1, LENS_4_1), row(0, 0, 0, 0, 0, 0, 1), row(1, 1, 1, 1, 0, 0, 0));
-        dueLeast("PROJECTIVE", space(2, PROJECTIVE),
+        dueLeast("LENS_4_1", space(1, Spaces.LENS_4_1), row(0, 0, 0, 0, 0, 0, 1), row(1, 1, 1, 1, 0, 0, 0));
+        dueLeast("PROJECTIVE", space(2, Spaces.PROJECTIVE),
             row(0, 0, 0, 0, 0, 0, 1, 0, 0, 0, 0, 0, 1, 0), row(0, 0, 0, 0, 0, 1, 0, 0, 0, 0, 0, 0, 0, 1),
             row(0, 0, 0, 0, 1, 0, 0, 0, 0, 0, 0, 1, 0, 0), row(0, 1, 0, 1, 0, 0, 0, 1, 0, 0, 1, 0, 0, 0),
             row(1, 0, 1, 0, 0, 0, 0, 0, 1, 1, 0, 0, 0, 0));
-        dueLeast("BENT", space(1, BENT), row(0, 0, 0, 0, 0, 1, 0), row(0, 0, 1, 1, 0, 0, 1), row(1, 1, 0, 0, 1, 0, 0),
+        dueLeast("BENT", space(1, Spaces.BENT), row(0, 0, 0, 0, 0, 1, 0), row(0, 0, 1, 1, 0, 0, 1), row(1, 1, 0, 0, 1, 0, 0),
             row(1, 1, 1, 1, 0, 0, 0));
         int most = 0;
-        ThirdSheets seven = space(3, SEVEN);
+        ThirdSheets seven = space(3, Spaces.SEVEN);
         for (int k = 0; k < seven.least(); k++) for (int i = 0; i < 21; i++) most = Math.max(most, seven.number(k, i));
         due("the greatest number in SEVEN", most, 7);
-        ThirdSheets x = space(2, TWIN);
+        ThirdSheets x = space(2, Spaces.TWIN);
         for (int v : new int[] {-1, LOW, HIGH}) {
             due("number(" + v + ", 0)", x.number(v, 0), BAD);
             due("number(0, " + v + ")", x.number(0, v), BAD);
@@ -447,7 +428,7 @@ public final class PromiseTests {
 
     private static void add() {
         promise = 15;
-        ThirdSheets x = space(2, TWIN);
+        ThirdSheets x = space(2, Spaces.TWIN);
         due("add(6, 3)", x.add(6, 3), 1);
         due("add(0, 0)", x.add(0, 0), 1);
         due("add(0, 100)", x.add(0, 100), 1);
@@ -459,7 +440,7 @@ public final class PromiseTests {
         due("parts()", x.parts(), 104);
         due("add(1, 1)", x.add(1, 1), 1);
         due("parts() of two kinds", x.parts(), NOT);
-        ThirdSheets y = space(2, TWIN);
+        ThirdSheets y = space(2, Spaces.TWIN);
         for (int i = 0; i < 10; i++) due("add(6, 100)", y.add(6, 100), 1);
         due("add(6, 1)", y.add(6, 1), FULL);
         due("add(6, 0)", y.add(6, 0), 1);
@@ -470,7 +451,7 @@ public final class PromiseTests {
         dueSheet("after FULL", y, 0, 0, 0, 0, 0, 0, 0, 999);
         due("add(6, 1)", y.add(6, 1), 1);
         dueSheet("just not FULL", y, 1, 0, 0, 0, 0, 0, 0, 1000);
-        ThirdSheets z = space(3, SEVEN);
+        ThirdSheets z = space(3, Spaces.SEVEN);
         for (int k = 0; k < z.least(); k++) {
             int most = 0;
             for (int i = 0; i < 21; i++) most = Math.max(most, z.number(k, i));
@@ -504,7 +485,7 @@ public final class PromiseTests {
         due("two kinds of FOURS", x.legal(), 2);
         x.glue(0, 0, 0, 1, 56);
         due("two kinds, and it does not fit", x.legal(), 1);
-        ThirdSheets y = space(2, TWIN);
+        ThirdSheets y = space(2, Spaces.TWIN);
         putAll(y, 1, 1, 1, 1, 1, 0, 0, 1, 1, 1, 1, 1, 0, 0);
         due("alike in both", y.legal(), 0);
         y.put(12, 1);
@@ -545,13 +526,13 @@ public final class PromiseTests {
             putAll(x, ball[i]);
             due("discs in a ball " + i, x.euler(), due[i]);
         }
-        dueEulers("LENS_4_1", space(1, LENS_4_1), 0, 2);
-        dueEulers("GIESEKING", space(1, GIESEKING), 0);
-        dueEulers("SPHERE_BY_CIRCLE", space(2, SPHERE_BY_CIRCLE), 0, 0, 2, 2);
-        dueEulers("PROJECTIVE", space(2, PROJECTIVE), 1, 0, 1, 2, 2);
-        dueEulers("PLANE_BY_CIRCLE", space(3, PLANE_BY_CIRCLE), -1, 0, 0, 0, 1, 2);
+        dueEulers("LENS_4_1", space(1, Spaces.LENS_4_1), 0, 2);
+        dueEulers("GIESEKING", space(1, Spaces.GIESEKING), 0);
+        dueEulers("SPHERE_BY_CIRCLE", space(2, Spaces.SPHERE_BY_CIRCLE), 0, 0, 2, 2);
+        dueEulers("PROJECTIVE", space(2, Spaces.PROJECTIVE), 1, 0, 1, 2, 2);
+        dueEulers("PLANE_BY_CIRCLE", space(3, Spaces.PLANE_BY_CIRCLE), -1, 0, 0, 0, 1, 2);
         // 3 edge classes, of the first members 01, 02, 23, with 2 points each; 6 arcs; 4 cuts.
-        ThirdSheets bent = space(1, BENT);
+        ThirdSheets bent = space(1, Spaces.BENT);
         putAll(bent, 1, 1, 1, 1, 0, 0, 0);
         due("BENT, a cut around each corner", bent.euler(), 6 - 6 + 4);
         bent.put(0, 2);
@@ -589,7 +570,7 @@ public final class PromiseTests {
         x.put(1, 1000);
         due("it does not fit, and is large", x.parts(), NOT);
         // Twice a surface with one side is one part with two; twice one with two sides is two parts.
-        ThirdSheets lens = space(1, LENS_4_1);
+        ThirdSheets lens = space(1, Spaces.LENS_4_1);
         for (int n = 1; n < 6; n++) {
             lens.drop();
             lens.add(0, n);
@@ -598,7 +579,7 @@ public final class PromiseTests {
             lens.add(1, n);
             due("LENS_4_1 " + n + " times 1", lens.parts(), n);
         }
-        ThirdSheets twin = space(2, TWIN);
+        ThirdSheets twin = space(2, Spaces.TWIN);
         putAll(twin, 1, 2, 3, 4, 0, 5, 0, 1, 2, 3, 4, 0, 5, 0);
         due("spheres in TWIN", twin.parts(), 15);
         twin.open(0, 0);
@@ -611,7 +592,7 @@ public final class PromiseTests {
 
     private static void part() {
         promise = 20;
-        ThirdSheets lens = space(1, LENS_4_1);
+        ThirdSheets lens = space(1, Spaces.LENS_4_1);
         lens.add(0, 1);
         duePart("a Klein bottle", lens, 0, 1, 0, 0);
         lens.add(0, 1);
@@ -625,7 +606,7 @@ public final class PromiseTests {
         duePart("then the torus", lens, 1, 2, 0, 1);
         duePart("then the bottle", lens, 2, 1, 0, 0);
         due("part(3, 0)", lens.part(3, 0), LOW);
-        ThirdSheets plane = space(2, PROJECTIVE);
+        ThirdSheets plane = space(2, Spaces.PROJECTIVE);
         plane.add(0, 1);
         duePart("a projective plane", plane, 0, 2, 1, 0);
         plane.add(0, 1);
@@ -633,7 +614,7 @@ public final class PromiseTests {
         ThirdSheets late = space(2, 0, 2, 1, 3, 18, 0, 1, 1, 1, 35, 0, 0, 1, 2, 52);
         putAll(late, 1, 0, 0, 1, 0, 1, 0, 0, 1, 2, 1, 0, 0, 0);
         duePart("one side by cuts that hang on the first late", late, 0, 7, -1, 0);
-        ThirdSheets bent = space(1, BENT);
+        ThirdSheets bent = space(1, Spaces.BENT);
         bent.add(1, 1);
         // Points of 01: THREES 0, 1 and FOURS 1, 2: 1; of 02: 2; of 23: 3. Arcs 5, cuts 3.
         duePart("in a bent space", bent, 0, 3, 1 + 2 + 3 - 5 + 3, 0);
