@@ -15,11 +15,6 @@ import java.util.regex.Pattern;
 
 /** The public face, what LANGUAGE.md leaves of Java as far as it can be looked up, and the room that an object takes. */
 public final class FaceTests {
-    private static final Set<String> METHODS = new TreeSet<>(Arrays.asList(
-        "int piece()", "int glue(int,int,int,int,int)", "int open(int,int)", "int clear()", "int across(int,int,int)",
-        "int classOf(int,int,int)", "int bent(int)", "int link(int)", "int count(int)", "int holes(int)", "int least()",
-        "int number(int,int)", "int put(int,int)", "int add(int,int)", "int drop()", "int legal()", "int euler()",
-        "int parts()", "int part(int,int)"));
     private static int wrong;
 
     public static void main(String[] args) throws Exception {
@@ -37,7 +32,24 @@ public final class FaceTests {
         System.out.println(what + ": " + got + ", due is " + want);
     }
 
+    /** What the document's code block has: methods as "int put(int,int)", constants as "BAD -2". */
+    private static void readFace(Set<String> methods, Set<String> constants) throws Exception {
+        String document = Files.readString(Path.of("../shared/DOC.md"));
+        Matcher block = Pattern.compile("(?s)```java\\s(.*?)```").matcher(document);
+        due("a code block in the document", block.find(), true);
+        String face = block.group(1);
+        due("the class", face.contains("public final class ThirdSheets {") && face.contains("public ThirdSheets();"), true);
+        Matcher method = Pattern.compile("public int (\\w+)\\(([^)]*)\\);").matcher(face);
+        while (method.find()) methods.add("int " + method.group(1) + "(" + method.group(2).replaceAll("int \\w+", "int").replace(" ", "") + ")");
+        Matcher list = Pattern.compile("public static final int ([^;]*);").matcher(face);
+        while (list.find()) for (String one : list.group(1).split(", ")) constants.add(one.replace(" =", ""));
+        due("lines of the code block that are read", face.trim().split("\n").length, methods.size() + 4);
+    }
+
     private static void looksAtFace() throws Exception {
+        Set<String> methods = new TreeSet<>();
+        Set<String> constantsDue = new TreeSet<>();
+        readFace(methods, constantsDue);
         due("modifiers", ThirdSheets.class.getModifiers(), Modifier.PUBLIC | Modifier.FINAL);
         Set<String> open = new TreeSet<>();
         Set<String> closed = new TreeSet<>();
@@ -51,8 +63,10 @@ public final class FaceTests {
             String types = Arrays.toString(m.getParameterTypes()).replace(" ", "");
             open.add(m.getReturnType() + " " + m.getName() + "(" + types.substring(1, types.length() - 1) + ")");
         }
-        due("methods", open, METHODS);
-        for (String face : METHODS) {
+        for (Class<?> c : ThirdSheets.class.getDeclaredClasses())
+            for (Method m : c.getDeclaredMethods()) if (Modifier.isPrivate(m.getModifiers())) closed.add(m.getName());
+        due("methods", open, methods);
+        for (String face : methods) {
             String name = face.substring(4, face.indexOf('('));
             due("a private method " + name, closed.contains(name), false);
         }
@@ -60,11 +74,12 @@ public final class FaceTests {
         due("constructors", made.length, 1);
         due("the constructor", made[0].toString(), "public ThirdSheets()");
         Set<String> constants = new TreeSet<>();
-        for (Field f : ThirdSheets.class.getDeclaredFields())
-            if (!Modifier.isPrivate(f.getModifiers()))
-                constants.add(Modifier.toString(f.getModifiers()) + " " + f.getName() + " " + f.get(null));
-        due("constants", constants, new TreeSet<>(Arrays.asList("public static final NONE -1", "public static final BAD -2",
-            "public static final NOT -3", "public static final FULL -4")));
+        for (Field f : ThirdSheets.class.getDeclaredFields()) {
+            if (Modifier.isPrivate(f.getModifiers())) continue;
+            due(f.getName() + " modifiers", Modifier.toString(f.getModifiers()), "public static final");
+            constants.add(f.getName() + " " + f.getInt(null));
+        }
+        due("constants", constants, constantsDue);
     }
 
     private static void looksAtNestedClasses() {

@@ -64,8 +64,26 @@ final class Run {
         StringBuilder told = new StringBuilder();
         lookAtSpace(new Played(), told);
         lookAtSheet(new Played(), told);
-        Played numbers = new Played();
-        for (int i = 0; i <= 21; i++) numbers.tell(Call.put(i, 0), told);
+        return told.append(numbers()).append(leastRows()).toString();
+    }
+
+    /** What of all that tells the pieces and what they are glued to, whatever sheet there is. */
+    String space() {
+        StringBuilder told = new StringBuilder();
+        lookAtSpace(new Played(), told);
+        return told.append(leastRows()).toString();
+    }
+
+    /** The numbers of the sheet. */
+    String numbers() {
+        StringBuilder told = new StringBuilder();
+        Played x = new Played();
+        for (int i = 0; i <= 21; i++) x.tell(Call.put(i, 0), told);
+        return told.toString();
+    }
+
+    private String leastRows() {
+        StringBuilder told = new StringBuilder();
         int rows = answer(Call.least());
         told.append("least() ").append(rows).append('\n');
         for (int k = 0; k <= rows; k += ROWS_A_LOOK) lookAtRows(new Played(), k, Math.min(rows, k + ROWS_A_LOOK), told);

@@ -7,6 +7,7 @@ public final class SentenceTests {
         new SpaceSentences(doc).check();
         new SheetSentences(doc).check();
         new RefusedSentences(doc).check();
+        new ChangeSentences(doc).check();
         if (!doc.allHold()) System.exit(1);
     }
 }
